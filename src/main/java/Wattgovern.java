@@ -99,10 +99,7 @@ public final class Wattgovern {
 
     public int core(int rail, char kind)
             throws IndexOutOfBoundsException, IllegalArgumentException, IllegalStateException {
-        Rail shared = railOrNull(rail);
-        if (shared == null) {
-            throw new IndexOutOfBoundsException("no such rail");
-        }
+        Rail shared = railAt(rail);
         if (kind != SMALL && kind != BIG) {
             throw new IllegalArgumentException("no such kind");
         }
@@ -117,9 +114,7 @@ public final class Wattgovern {
 
     public int thread(int core, int work, int memory)
             throws IndexOutOfBoundsException, IllegalArgumentException, IllegalStateException {
-        if (coreOrNull(core) == null) {
-            throw new IndexOutOfBoundsException("no such core");
-        }
+        coreAt(core);
         if (!isFrom(1, work, MOST_WORK_AT_ONCE) || !isFrom(0, memory, MOST_MEMORY)) {
             throw new IllegalArgumentException("a number out of range");
         }
@@ -134,10 +129,7 @@ public final class Wattgovern {
 
     public int feed(int thread, int work)
             throws IndexOutOfBoundsException, IllegalArgumentException, IllegalStateException {
-        Task fed = taskOrNull(thread);
-        if (fed == null) {
-            throw new IndexOutOfBoundsException("no such thread");
-        }
+        Task fed = taskAt(thread);
         if (!isFrom(1, work, MOST_WORK_AT_ONCE)) {
             throw new IllegalArgumentException("a number out of range");
         }
@@ -149,10 +141,8 @@ public final class Wattgovern {
     }
 
     public int move(int thread, int core) throws IndexOutOfBoundsException, UnsupportedOperationException {
-        Task moved = taskOrNull(thread);
-        if (moved == null || coreOrNull(core) == null) {
-            throw new IndexOutOfBoundsException("no such thread or core");
-        }
+        Task moved = taskAt(thread);
+        coreAt(core);
         if (moved.core == core) {
             throw new UnsupportedOperationException("it is there");
         }
@@ -164,10 +154,7 @@ public final class Wattgovern {
 
     public char governor(int core, char kind, int speed)
             throws IndexOutOfBoundsException, IllegalArgumentException {
-        Core governed = coreOrNull(core);
-        if (governed == null) {
-            throw new IndexOutOfBoundsException("no such core");
-        }
+        Core governed = coreAt(core);
         if (kind != FIXED && kind != LADDER && kind != BY_WORK) {
             throw new IllegalArgumentException("no such governor");
         }
@@ -181,19 +168,11 @@ public final class Wattgovern {
     }
 
     public int work(int thread) throws IndexOutOfBoundsException {
-        Task asked = taskOrNull(thread);
-        if (asked == null) {
-            throw new IndexOutOfBoundsException("no such thread");
-        }
-        return asked.left;
+        return taskAt(thread).left;
     }
 
     public boolean isCold(int thread) throws IndexOutOfBoundsException {
-        Task asked = taskOrNull(thread);
-        if (asked == null) {
-            throw new IndexOutOfBoundsException("no such thread");
-        }
-        return asked.coldTicks > 0;
+        return taskAt(thread).coldTicks > 0;
     }
 
     // ---- time and speeds ----
@@ -212,49 +191,28 @@ public final class Wattgovern {
     }
 
     public int speed(int core) throws IndexOutOfBoundsException {
-        Core asked = coreOrNull(core);
-        if (asked == null) {
-            throw new IndexOutOfBoundsException("no such core");
-        }
-        return asked.speed;
+        return coreAt(core).speed;
     }
 
     public int wanted(int core) throws IndexOutOfBoundsException {
-        Core asked = coreOrNull(core);
-        if (asked == null) {
-            throw new IndexOutOfBoundsException("no such core");
-        }
-        return asked.wanted;
+        return coreAt(core).wanted;
     }
 
     public char clamp(int core) throws IndexOutOfBoundsException {
-        Core asked = coreOrNull(core);
-        if (asked == null) {
-            throw new IndexOutOfBoundsException("no such core");
-        }
-        return asked.clamp;
+        return coreAt(core).clamp;
     }
 
     public char sleep(int core) throws IndexOutOfBoundsException {
-        Core asked = coreOrNull(core);
-        if (asked == null) {
-            throw new IndexOutOfBoundsException("no such core");
-        }
-        return asked.sleep;
+        return coreAt(core).sleep;
     }
 
     public boolean isBusy(int core) throws IndexOutOfBoundsException {
-        if (coreOrNull(core) == null) {
-            throw new IndexOutOfBoundsException("no such core");
-        }
+        coreAt(core);
         return runningOn(core) != null;
     }
 
     public int need(int core, int speed) throws IndexOutOfBoundsException, IllegalArgumentException {
-        Core asked = coreOrNull(core);
-        if (asked == null) {
-            throw new IndexOutOfBoundsException("no such core");
-        }
+        Core asked = coreAt(core);
         if (!isFrom(0, speed, asked.greatestSpeed())) {
             throw new IllegalArgumentException("no speed of its kind");
         }
@@ -262,29 +220,17 @@ public final class Wattgovern {
     }
 
     public int volts(int rail) throws IndexOutOfBoundsException {
-        Rail asked = railOrNull(rail);
-        if (asked == null) {
-            throw new IndexOutOfBoundsException("no such rail");
-        }
-        return asked.millivolts;
+        return railAt(rail).millivolts;
     }
 
     // ---- heat ----
 
     public int heat(int core) throws IndexOutOfBoundsException {
-        Core asked = coreOrNull(core);
-        if (asked == null) {
-            throw new IndexOutOfBoundsException("no such core");
-        }
-        return (int) asked.heat;
+        return (int) coreAt(core).heat;
     }
 
     public int degrees(int core) throws IndexOutOfBoundsException {
-        Core asked = coreOrNull(core);
-        if (asked == null) {
-            throw new IndexOutOfBoundsException("no such core");
-        }
-        return (int) asked.inDegrees();
+        return (int) coreAt(core).inDegrees();
     }
 
     public int caseDegrees() {
@@ -292,10 +238,7 @@ public final class Wattgovern {
     }
 
     public int sensor(int core) throws IndexOutOfBoundsException, NoSuchElementException {
-        Core asked = coreOrNull(core);
-        if (asked == null) {
-            throw new IndexOutOfBoundsException("no such core");
-        }
+        Core asked = coreAt(core);
         if (asked.sensorLost) {
             throw new NoSuchElementException("the sensor is lost");
         }
@@ -303,21 +246,14 @@ public final class Wattgovern {
     }
 
     public boolean lose(int core, boolean is) throws IndexOutOfBoundsException {
-        Core asked = coreOrNull(core);
-        if (asked == null) {
-            throw new IndexOutOfBoundsException("no such core");
-        }
+        Core asked = coreAt(core);
         boolean before = asked.sensorLost;
         asked.sensorLost = is;
         return before;
     }
 
     public boolean isTripped(int core) throws IndexOutOfBoundsException {
-        Core asked = coreOrNull(core);
-        if (asked == null) {
-            throw new IndexOutOfBoundsException("no such core");
-        }
-        return asked.tripped;
+        return coreAt(core).tripped;
     }
 
     public int fan() {
@@ -335,10 +271,7 @@ public final class Wattgovern {
 
     public int heatUp(int core, int heat)
             throws IndexOutOfBoundsException, IllegalArgumentException, IllegalStateException {
-        Core heated = coreOrNull(core);
-        if (heated == null) {
-            throw new IndexOutOfBoundsException("no such core");
-        }
+        Core heated = coreAt(core);
         if (!isFrom(1, heat, MOST_HEAT_AT_ONCE)) {
             throw new IllegalArgumentException("a number out of range");
         }
@@ -409,27 +342,16 @@ public final class Wattgovern {
     // ---- age and sums ----
 
     public int age(int core) throws IndexOutOfBoundsException {
-        Core asked = coreOrNull(core);
-        if (asked == null) {
-            throw new IndexOutOfBoundsException("no such core");
-        }
-        return asked.inAge();
+        return coreAt(core).inAge();
     }
 
     public boolean isRetired(int core) throws IndexOutOfBoundsException {
-        Core asked = coreOrNull(core);
-        if (asked == null) {
-            throw new IndexOutOfBoundsException("no such core");
-        }
-        return asked.isTooOld();
+        return coreAt(core).isTooOld();
     }
 
     public int wear(int core, int wear)
             throws IndexOutOfBoundsException, IllegalArgumentException, IllegalStateException {
-        Core worn = coreOrNull(core);
-        if (worn == null) {
-            throw new IndexOutOfBoundsException("no such core");
-        }
+        Core worn = coreAt(core);
         if (!isFrom(1, wear, MOST_WEAR_AT_ONCE)) {
             throw new IllegalArgumentException("a number out of range");
         }
@@ -530,16 +452,28 @@ public final class Wattgovern {
         return number >= least && number <= most;
     }
 
-    private Rail railOrNull(int number) {
-        return number < 0 || number >= rails.length ? null : rails[number];
+    private Rail railAt(int number) {
+        Rail rail = number < 0 || number >= rails.length ? null : rails[number];
+        if (rail == null) {
+            throw new IndexOutOfBoundsException("no such rail");
+        }
+        return rail;
     }
 
-    private Core coreOrNull(int number) {
-        return number < 0 || number >= cores.length ? null : cores[number];
+    private Core coreAt(int number) {
+        Core core = number < 0 || number >= cores.length ? null : cores[number];
+        if (core == null) {
+            throw new IndexOutOfBoundsException("no such core");
+        }
+        return core;
     }
 
-    private Task taskOrNull(int number) {
-        return number < 0 || number >= tasks.length ? null : tasks[number];
+    private Task taskAt(int number) {
+        Task task = number < 0 || number >= tasks.length ? null : tasks[number];
+        if (task == null) {
+            throw new IndexOutOfBoundsException("no such thread");
+        }
+        return task;
     }
 
     private Task runningOn(int core) {
@@ -617,7 +551,6 @@ public final class Wattgovern {
             return;
         }
         core.sleep = AWAKE;
-        core.idleTicks = 0;
         if (core.wasDeep) {
             chillThreadsOn(core.number);
         }

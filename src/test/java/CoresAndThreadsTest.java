@@ -18,6 +18,7 @@ public final class CoresAndThreadsTest {
         workGoesByKindAndMemory();
         theLowestThreadRuns();
         aMovedThreadIsCold();
+        aColdThreadDoesHalf();
         aColdThreadMayDoNothing();
         coldTicksNeedASpeedAndARun();
         noSuchThread();
@@ -246,6 +247,21 @@ public final class CoresAndThreadsTest {
         check.same("a move counts 5 anew", true, x.isCold(0));
         x.pass(1);
         check.same("warm behind 5", false, x.isCold(0));
+    }
+
+    private static void aColdThreadDoesHalf() {
+        Wattgovern x = new Wattgovern();
+        x.core(0, 'b');
+        x.core(1, 'b');
+        x.thread(0, 1000, 1);
+        x.governor(0, 'f', 3);
+        x.pass(15);
+        check.same("speed", 3, x.speed(0));
+        x.move(0, 1);
+        x.move(0, 0);
+        int before = x.work(0);
+        x.pass(1);
+        check.same("half of 8", before - 4, x.work(0));
     }
 
     private static void aColdThreadMayDoNothing() {

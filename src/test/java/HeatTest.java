@@ -11,6 +11,7 @@ public final class HeatTest {
         heatComesFromOutside();
         powerOfABusyCore();
         powerOfAnIdleCore();
+        powerOfAFastIdleCore();
         leakByTheDegreesAhead();
         leakInSleep();
         oneCoreBehindTheOther();
@@ -90,6 +91,34 @@ public final class HeatTest {
         x.pass(1);
         check.same("560 by 200, and the leak", 2 + 2, x.taken());
         check.same("speed all the same", 1, x.speed(0));
+    }
+
+    /** A big core whose thread has just gone to a core of speed 0 on another rail. */
+    private static void powerOfAFastIdleCore() {
+        for (int speed : new int[] {5, 7}) {
+            int age = speed == 7 ? 20 : 0;
+            Wattgovern x = new Wattgovern();
+            x.core(0, 'b');
+            x.core(1, 's');
+            x.governor(1, 'f', 0);
+            x.thread(0, 99999, 0);
+            x.governor(0, 'f', speed);
+            x.pass(1);
+            if (age > 0) {
+                x.wear(0, age * 10);
+            }
+            x.pass(22);
+            check.same("speed", speed, x.speed(0));
+            int volts = 500 + 60 * speed + age;
+            check.same("volts", volts, x.volts(0));
+            int leak = volts * x.degrees(0) / 5000;
+            x.thread(1, 10, 0);
+            x.move(0, 1);
+            check.same("deep", 'd', x.sleep(1));
+            x.pass(1);
+            leak += x.volts(1) * 20 / 5000;
+            check.same("by 200, cut", (speed == 7 ? 32 : 20) + leak, x.taken());
+        }
     }
 
     private static void leakByTheDegreesAhead() {

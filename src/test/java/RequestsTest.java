@@ -11,6 +11,7 @@ public final class RequestsTest {
         theyHoldFromTheNextTickOn();
         whyTellsTheLastRefusal();
         dropsLeaveNumbersBehind();
+        theLeastNumber();
         check.finish();
     }
 
@@ -113,5 +114,23 @@ public final class RequestsTest {
         check.same("nothing left", false, x.drop());
         x.pass(1);
         check.same("neither holds", 0, x.holds());
+    }
+
+    private static void theLeastNumber() {
+        Wattgovern x = new Wattgovern();
+        x.core(0, 'b');
+        x.thread(0, 9999, 0);
+        x.governor(0, 'f', 7);
+        x.request(1, 0);
+        check.same("1 waits, and is dropped", true, x.drop());
+        Wattgovern y = new Wattgovern();
+        y.core(0, 'b');
+        y.thread(0, 9999, 0);
+        y.governor(0, 'f', 7);
+        y.request(1, 0);
+        y.pass(1);
+        check.same("1 holds", 1, y.holds());
+        check.same("and clamps", 'q', y.clamp(0));
+        check.same("and is dropped", true, y.drop());
     }
 }

@@ -17,6 +17,8 @@ public final class SpeedsTest {
         hotCoresNeedMore();
         lostSensorClamps();
         emptyPurseClamps();
+        aPurseOfOneIsNotEmpty();
+        powerOfOneOwedClamps();
         owedPowerClamps();
         requestsClamp();
         tripsAndAgeClamp();
@@ -146,6 +148,12 @@ public final class SpeedsTest {
         check.same("thread 0 is done", 0, x.work(0));
         x.pass(1);
         check.same("a thread without work left does not count", 6, x.wanted(0));
+        Wattgovern y = new Wattgovern();
+        y.core(0, 'b');
+        y.governor(0, 'w', 0);
+        y.thread(0, 1, 0);
+        y.pass(1);
+        check.same("a work of 1 counts", 3, y.wanted(0));
     }
 
     private static void needs() {
@@ -276,6 +284,51 @@ public final class SpeedsTest {
         x.governor(1, 'f', 2);
         x.pass(1);
         check.same("2 wanted, 2 told", '-', x.clamp(1));
+    }
+
+    /** Tries heats until the purse has exactly 1 behind the second tick. */
+    private static void aPurseOfOneIsNotEmpty() {
+        boolean met = false;
+        for (int heat = 1; heat <= 9999 && !met; heat += 20) {
+            Wattgovern x = new Wattgovern();
+            addBusyCore(x, 0, 's', 0);
+            addBusyCore(x, 1, 'b', 5);
+            for (int i = 0; i < 6; i++) {
+                x.heatUp(0, 9999);
+            }
+            x.heatUp(0, heat);
+            x.pass(2);
+            if (x.purse() == 1) {
+                met = true;
+                x.pass(1);
+                check.same("1 is not empty", '-', x.clamp(1));
+            }
+        }
+        check.yes("a purse of 1 was met", met);
+    }
+
+    private static Wattgovern drained(int ticks) {
+        Wattgovern x = new Wattgovern();
+        for (int i = 0; i < 6; i++) {
+            addBusyCore(x, 0, 'b', 7);
+        }
+        x.wall(0);
+        x.pass(ticks);
+        return x;
+    }
+
+    /** Finds the first tick that owes, then runs again with a wall that leaves exactly 1. */
+    private static void powerOfOneOwedClamps() {
+        int ticks = 1;
+        while (ticks < 90 && drained(ticks).owed() == 0) {
+            ticks++;
+        }
+        Wattgovern x = drained(ticks - 1);
+        x.wall(drained(ticks).owed() - 1);
+        x.pass(1);
+        check.same("exactly 1 is owed", 1, x.owed());
+        x.pass(1);
+        check.same("1 owed clamps", 'o', x.clamp(0));
     }
 
     private static void owedPowerClamps() {
