@@ -62,6 +62,7 @@ public final class Wattgovern {
     private static final int HEAT_OF_CORE_DEGREE = 20;
     private static final int CASE_HEAT_AT_FIRST = 4000;
     private static final int HEAT_OF_CASE_DEGREE = 200;
+    private static final int LEAK_DIVISOR = 5000;
     private static final int HOT = 80;
     private static final int WEARING = 85;
     private static final int TRIPS_FROM = 100;
@@ -78,6 +79,12 @@ public final class Wattgovern {
     private static final int CHARGE_IN_A_TICK = 30;
     private static final int PURSE_FULL = 600;
     private static final int PURSE_GETS = 60;
+    private static final int ABOVE_ALL_SUPPLY = 10000;
+
+    private static final int PART_BITS = 32;
+    private static final long PART_MASK = 0xFFFFFFFFL;
+    private static final int AMOUNT_PARTS = 16;
+    private static final long ENOUGH_BITS = 1L << 61;
 
     private final Rail[] rails = new Rail[RAILS];
     private final Core[] cores = new Core[MOST_CORES];
@@ -85,6 +92,9 @@ public final class Wattgovern {
     private final Cooling cooling = new Cooling();
     private final Supply supply = new Supply();
     private final Requests requests = new Requests();
+    // made once and used again, as a tick makes no objects
+    private final Amount powerOfAll = new Amount();
+    private final Amount passing = new Amount();
     private int ticks = 0;
     private long heatFromOutside = 0;
 
@@ -226,15 +236,15 @@ public final class Wattgovern {
     // ---- heat ----
 
     public int heat(int core) throws IndexOutOfBoundsException {
-        return (int) coreAt(core).heat;
+        return (int) coreAt(core).body.heat.lowBits();
     }
 
     public int degrees(int core) throws IndexOutOfBoundsException {
-        return (int) coreAt(core).inDegrees();
+        return (int) coreAt(core).body.degrees.lowBits();
     }
 
     public int caseDegrees() {
-        return (int) cooling.inDegrees();
+        return (int) cooling.box.degrees.lowBits();
     }
 
     public int sensor(int core) throws IndexOutOfBoundsException, NoSuchElementException {
@@ -242,7 +252,7 @@ public final class Wattgovern {
         if (asked.sensorLost) {
             throw new NoSuchElementException("the sensor is lost");
         }
-        return (int) asked.sensorTells;
+        return asked.sensorTells;
     }
 
     public boolean lose(int core, boolean is) throws IndexOutOfBoundsException {
@@ -275,12 +285,13 @@ public final class Wattgovern {
         if (!isFrom(1, heat, MOST_HEAT_AT_ONCE)) {
             throw new IllegalArgumentException("a number out of range");
         }
-        if (heated.heat + heat > MOST_HEAT) {
+        if (heated.body.heat.upTo(MOST_HEAT) + heat > MOST_HEAT) {
             throw new IllegalStateException("too much heat");
         }
-        heated.heat += heat;
+        passing.become(heat);
+        heated.body.gain(passing);
         heatFromOutside += heat;
-        return (int) heated.inDegrees();
+        return (int) heated.body.degrees.lowBits();
     }
 
     // ---- power and requests ----
@@ -295,11 +306,11 @@ public final class Wattgovern {
     }
 
     public int battery() {
-        return (int) supply.battery;
+        return supply.battery;
     }
 
     public int purse() {
-        return (int) supply.purse;
+        return supply.purse;
     }
 
     public int taken() {
@@ -389,7 +400,7 @@ public final class Wattgovern {
         for (Core core : cores) {
             if (core != null) {
                 sum = 31 * sum + core.speed;
-                sum = 31 * sum + core.heat;
+                sum = 31 * sum + core.body.heat.lowBits();
             }
         }
         for (Task task : tasks) {
@@ -397,7 +408,7 @@ public final class Wattgovern {
                 sum = 31 * sum + task.left;
             }
         }
-        sum = 31 * sum + cooling.caseHeat;
+        sum = 31 * sum + cooling.box.heat.lowBits();
         return 31 * sum + supply.battery;
     }
 
@@ -418,25 +429,26 @@ public final class Wattgovern {
 
     public double meanDegrees() throws NoSuchElementException {
         int all = 0;
-        long sum = 0;
+        passing.become(0);
         for (Core core : cores) {
             if (core != null) {
                 all++;
-                sum += core.inDegrees();
+                passing.add(core.body.degrees);
             }
         }
         if (all == 0) {
             throw new NoSuchElementException("no cores");
         }
-        return (double) sum / (double) all;
+        return passing.toDouble() / (double) all;
     }
 
+    /** Compares the lowest 64 bits: sums that are equal stay so beyond a long. */
     public boolean isSound() {
-        long inside = cooling.caseHeat;
+        long inside = cooling.box.heat.lowBits();
         long atFirst = CASE_HEAT_AT_FIRST;
         for (Core core : cores) {
             if (core != null) {
-                inside += core.heat;
+                inside += core.body.heat.lowBits();
                 atFirst += CORE_HEAT_AT_FIRST;
             }
         }
@@ -505,11 +517,13 @@ public final class Wattgovern {
         wishAndClamp();
         driveRails();
         letCoresRun();
-        long power = heatCores();
+        heatCores();
         flowToCase();
-        cooling.giveToAir();
+        cooling.giveToAir(passing);
         cooling.stepFan();
-        supply.give(power + cooling.runFan());
+        passing.become(cooling.runFan());
+        powerOfAll.add(passing);
+        supply.give(powerOfAll);
     }
 
     private void beginCores() {
@@ -583,7 +597,7 @@ public final class Wattgovern {
         if (core.tripped) {
             core.limit(0, TRIPPED);
         }
-        if (supply.owed > 0) {
+        if (supply.isInDebt) {
             core.limit(0, POWER_OWED);
         }
         if (core.sensorLost) {
@@ -630,24 +644,27 @@ public final class Wattgovern {
         }
     }
 
-    private long heatCores() {
-        long all = 0;
+    private void heatCores() {
+        powerOfAll.become(0);
         for (Core core : cores) {
             if (core != null) {
-                long power = core.power();
-                core.heat += power;
-                all += power;
+                core.tellPower(passing);
+                core.body.gain(passing);
+                powerOfAll.add(passing);
             }
         }
-        return all;
     }
 
     private void flowToCase() {
         for (Core core : cores) {
             if (core != null) {
-                long flow = core.inDegrees() - cooling.inDegrees();
-                core.heat -= flow;
-                cooling.caseHeat += flow;
+                boolean isBack = core.body.degrees.isLess(cooling.box.degrees);
+                Body from = isBack ? cooling.box : core.body;
+                Body to = isBack ? core.body : cooling.box;
+                passing.becomeSame(from.degrees);
+                passing.takeAway(to.degrees);
+                from.giveAway(passing);
+                to.gain(passing);
             }
         }
     }
@@ -704,9 +721,8 @@ public final class Wattgovern {
         boolean wasDeep = false;
         boolean busy = false;
         boolean wasBusy = false;
-        // long: a dead fan and an aged chip can heat each other far beyond what an int's products hold
-        long heat = CORE_HEAT_AT_FIRST;
-        long sensorTells = AIR_DEGREES;
+        final Body body = new Body(CORE_HEAT_AT_FIRST, HEAT_OF_CORE_DEGREE);
+        int sensorTells = AIR_DEGREES;
         boolean sensorLost = false;
         boolean tripped = false;
         int worn = 0;
@@ -715,10 +731,6 @@ public final class Wattgovern {
             this.number = number;
             this.rail = rail;
             this.big = big;
-        }
-
-        long inDegrees() {
-            return heat / HEAT_OF_CORE_DEGREE;
         }
 
         int inAge() {
@@ -738,7 +750,7 @@ public final class Wattgovern {
         }
 
         int voltsFor(int someSpeed) {
-            int whenHot = inDegrees() >= HOT ? VOLTS_WHEN_HOT : 0;
+            int whenHot = body.degrees.upTo(HOT) >= HOT ? VOLTS_WHEN_HOT : 0;
             return LEAST_VOLTS + VOLTS_FOR_EACH_SPEED * someSpeed + inAge() + whenHot;
         }
 
@@ -748,11 +760,12 @@ public final class Wattgovern {
         }
 
         void readSensor() {
-            sensorTells = inDegrees() - inDegrees() % 2;
+            int degrees = (int) body.degrees.lowBits();
+            sensorTells = degrees - (degrees & 1);
         }
 
         void tripAndWear() {
-            long degrees = inDegrees();
+            int degrees = body.degrees.upTo(TRIPS_FROM);
             if (degrees >= TRIPS_FROM) {
                 tripped = true;
             } else if (degrees < TRIPS_UNTIL) {
@@ -802,43 +815,72 @@ public final class Wattgovern {
             }
         }
 
-        long power() {
+        /** Lets the amount become what this core takes in the tick, by its degrees ahead of that. */
+        void tellPower(Amount power) {
             if (sleep == DEEP) {
-                return 0;
+                power.become(0);
+                return;
             }
-            long leak = rail.millivolts * inDegrees() / 5000;
+            power.becomeProduct(body.degrees, rail.millivolts);
+            power.becomeQuotient(power, LEAK_DIVISOR);
             if (sleep == LIGHT) {
-                return leak / 2;
+                power.becomeQuotient(power, 2);
+            } else if (sleep == AWAKE) {
+                power.addSmall(speed * rail.millivolts / (busy ? 50 : 200));
             }
-            if (sleep == WAKING) {
-                return leak;
-            }
-            return speed * rail.millivolts / (busy ? 50 : 200) + leak;
+        }
+    }
+
+    /** What holds heat, a core or the case, with its degrees, which follow each change of the heat. */
+    private static final class Body {
+        final int heatOfDegree;
+        final Amount heat = new Amount();
+        final Amount degrees = new Amount();
+
+        Body(int heatAtFirst, int heatOfDegree) {
+            this.heatOfDegree = heatOfDegree;
+            heat.become(heatAtFirst);
+            degrees.becomeQuotient(heat, heatOfDegree);
+        }
+
+        void gain(Amount more) {
+            heat.add(more);
+            degrees.becomeQuotient(heat, heatOfDegree);
+        }
+
+        void giveAway(Amount less) {
+            heat.takeAway(less);
+            degrees.becomeQuotient(heat, heatOfDegree);
         }
     }
 
     /** The case, the air and the fan. */
     private static final class Cooling {
-        long caseHeat = CASE_HEAT_AT_FIRST;
+        final Body box = new Body(CASE_HEAT_AT_FIRST, HEAT_OF_CASE_DEGREE);
+        final Amount airDegrees = new Amount();
         long givenToAir = 0;
         int fanLevel = 0;
         boolean fanDead = false;
 
-        long inDegrees() {
-            return caseHeat / HEAT_OF_CASE_DEGREE;
+        Cooling() {
+            airDegrees.become(AIR_DEGREES);
         }
 
-        void giveToAir() {
-            long given = (inDegrees() - AIR_DEGREES) * (fanLevel + 1) / 2;
-            caseHeat -= given;
-            givenToAir += given;
+        /** No core and no case is ever colder than the air, as each begins with its 20 degrees, so this is not below 0. */
+        void giveToAir(Amount given) {
+            given.becomeSame(box.degrees);
+            given.takeAway(airDegrees);
+            given.becomeProduct(given, fanLevel + 1);
+            given.becomeQuotient(given, 2);
+            box.giveAway(given);
+            givenToAir += given.lowBits();
         }
 
         void stepFan() {
             if (fanDead) {
                 return;
             }
-            long degrees = inDegrees();
+            int degrees = box.degrees.upTo(HOT);
             if (fanLevel < FAN_GREATEST && degrees >= 40 + 10 * fanLevel) {
                 fanLevel++;
             } else if (fanLevel > 0 && degrees < 25 + 10 * fanLevel) {
@@ -846,38 +888,42 @@ public final class Wattgovern {
             }
         }
 
-        long runFan() {
-            long power = FAN_POWER * fanLevel;
+        int runFan() {
+            int power = FAN_POWER * fanLevel;
             givenToAir += power;
             return power;
         }
     }
 
-    /** The wall, the battery and the purse. */
+    /** The wall, the battery and the purse; of what no long can hold, the sums keep the lowest 64 bits. */
     private static final class Supply {
         int wallGives = WALL_AT_FIRST;
-        long battery = BATTERY_FULL;
-        long purse = PURSE_FULL;
+        int battery = BATTERY_FULL;
+        int purse = PURSE_FULL;
         long taken = 0;
         long owed = 0;
+        boolean isInDebt = false;
         long sumFromWall = 0;
         long sumFromBattery = 0;
         long sumOwed = 0;
         long sumTaken = 0;
 
-        void give(long power) {
-            long fromWall = Math.min(power, wallGives);
-            long fromBattery = Math.min(power - fromWall, battery);
-            long room = BATTERY_FULL - battery;
-            long charge = Math.min(room, Math.min(CHARGE_IN_A_TICK, wallGives - fromWall));
-            taken = power;
-            owed = power - fromWall - fromBattery;
+        /** What is far above all that wall, battery and purse can give is as good as ABOVE_ALL_SUPPLY to them. */
+        void give(Amount power) {
+            int bounded = power.upTo(ABOVE_ALL_SUPPLY);
+            int fromWall = Math.min(bounded, wallGives);
+            int fromBattery = Math.min(bounded - fromWall, battery);
+            int room = BATTERY_FULL - battery;
+            int charge = Math.min(room, Math.min(CHARGE_IN_A_TICK, wallGives - fromWall));
+            taken = power.lowBits();
+            owed = taken - fromWall - fromBattery;
+            isInDebt = bounded > fromWall + fromBattery;
             battery += charge - fromBattery;
             sumFromWall += fromWall + charge;
             sumFromBattery += fromBattery - charge;
             sumOwed += owed;
-            sumTaken += power;
-            purse = Math.max(0, Math.min(PURSE_FULL, purse + PURSE_GETS - power));
+            sumTaken += taken;
+            purse = Math.max(0, Math.min(PURSE_FULL, purse + PURSE_GETS - bounded));
         }
     }
 
@@ -911,6 +957,143 @@ public final class Wattgovern {
             heldNumber = 0;
             waitingNumber = 0;
             return any;
+        }
+    }
+
+    /**
+     * A whole number, 0 or more, beyond what a long holds: an aged chip with a dead fan heats itself, as its leak
+     * follows its degrees. In a tick all heat grows to at most 1.03 times itself and 3000 more, as no rail comes to
+     * 3000 millivolts; so 9999 ticks, whatever comes from outside, leave it below 2 to the 460.
+     */
+    private static final class Amount {
+        // the lowest part first; those from used on are 0
+        final long[] parts = new long[AMOUNT_PARTS];
+        int used = 0;
+
+        /** The number is below 2 to the 31, and not below 0. */
+        void become(int number) {
+            for (int i = 0; i < used; i++) {
+                parts[i] = 0;
+            }
+            parts[0] = number;
+            used = 1;
+            dropZeros();
+        }
+
+        void becomeSame(Amount other) {
+            int most = Math.max(used, other.used);
+            for (int i = 0; i < most; i++) {
+                parts[i] = other.parts[i];
+            }
+            used = other.used;
+        }
+
+        void becomeProduct(Amount other, int factor) {
+            int most = Math.max(used, other.used);
+            long carry = 0;
+            for (int i = 0; i < most; i++) {
+                carry += other.parts[i] * factor;
+                parts[i] = carry & PART_MASK;
+                carry >>>= PART_BITS;
+            }
+            used = most;
+            putOnTop(carry);
+        }
+
+        /** The quotient is cut. */
+        void becomeQuotient(Amount other, int divisor) {
+            if (divisor < 1) {
+                return;
+            }
+            used = Math.max(used, other.used);
+            long rest = 0;
+            for (int i = used - 1; i >= 0; i--) {
+                rest = (rest << PART_BITS) + other.parts[i];
+                parts[i] = rest / divisor;
+                rest %= divisor;
+            }
+            dropZeros();
+        }
+
+        void add(Amount more) {
+            int most = Math.max(used, more.used);
+            long carry = 0;
+            for (int i = 0; i < most; i++) {
+                carry += parts[i] + more.parts[i];
+                parts[i] = carry & PART_MASK;
+                carry >>>= PART_BITS;
+            }
+            used = most;
+            putOnTop(carry);
+        }
+
+        void addSmall(int more) {
+            long carry = more;
+            for (int i = 0; i < used && carry > 0; i++) {
+                carry += parts[i];
+                parts[i] = carry & PART_MASK;
+                carry >>>= PART_BITS;
+            }
+            putOnTop(carry);
+        }
+
+        /** Only called with an amount that is no greater than this one. */
+        void takeAway(Amount less) {
+            long carry = 0;
+            for (int i = 0; i < used; i++) {
+                carry += parts[i] - less.parts[i];
+                parts[i] = carry & PART_MASK;
+                carry >>= PART_BITS;
+            }
+            dropZeros();
+        }
+
+        boolean isLess(Amount other) {
+            for (int i = Math.max(used, other.used) - 1; i >= 0; i--) {
+                if (parts[i] != other.parts[i]) {
+                    return parts[i] < other.parts[i];
+                }
+            }
+            return false;
+        }
+
+        /** This number, or most if that is less. */
+        int upTo(int most) {
+            return used > 1 || parts[0] > most ? most : (int) parts[0];
+        }
+
+        long lowBits() {
+            return parts[0] + (parts[1] << PART_BITS);
+        }
+
+        /** Rounds once, in the cast: of all bits behind the first 62 it matters only whether there is a 1. */
+        double toDouble() {
+            long first = 0;
+            double scale = 1.0;
+            for (int i = used * PART_BITS - 1; i >= 0; i--) {
+                long bit = (parts[i / PART_BITS] >> (i % PART_BITS)) & 1;
+                if (first < ENOUGH_BITS) {
+                    first = 2 * first + bit;
+                } else {
+                    first |= bit;
+                    scale *= 2.0;
+                }
+            }
+            return (double) first * scale;
+        }
+
+        private void putOnTop(long part) {
+            if (part > 0 && used < parts.length) {
+                parts[used] = part;
+                used++;
+            }
+            dropZeros();
+        }
+
+        private void dropZeros() {
+            while (used > 0 && parts[used - 1] == 0) {
+                used--;
+            }
         }
     }
 }

@@ -1,10 +1,12 @@
+import java.math.BigInteger;
 import java.util.ArrayList;
 import java.util.List;
 import java.util.NoSuchElementException;
 
 /**
  * The document read a second time, sentence by sentence, in the plainest form and with the Java library,
- * so that RandomRunsTest can compare both readings. Shares no code with the class.
+ * so that other tests can compare both readings. Shares no code with the class. Heat and power have no bound here;
+ * of a number that its type can't hold, both readings tell the lowest bits.
  */
 final class PlainModel {
     private final List<Integer> railOf = new ArrayList<>();
@@ -23,32 +25,48 @@ final class PlainModel {
     private final int[] idle = new int[6];
     private final int[] awakeAt = new int[6];
     private final boolean[] busyAhead = new boolean[6];
-    private final long[] heat = new long[6];
-    private final long[] tells = new long[6];
+    private final BigInteger[] heat = new BigInteger[6];
+    private final BigInteger[] tells = new BigInteger[6];
     private final boolean[] lost = new boolean[6];
     private final boolean[] tripped = new boolean[6];
     private final int[] wear = new int[6];
     private final int[] volts = {500, 500, 500};
-    private long caseHeat = 4000;
+    private BigInteger caseHeat = big(4000);
     private int fan = 0;
     private boolean fanDead = false;
     private int tick = 0;
     private int wall = 200;
-    private long battery = 5000;
-    private long purse = 600;
-    private long taken = 0;
-    private long owed = 0;
-    private long sumWall = 0;
-    private long sumBattery = 0;
-    private long sumOwed = 0;
-    private long sumOutside = 0;
-    private long sumAir = 0;
-    private long sumTaken = 0;
+    private BigInteger battery = big(5000);
+    private BigInteger purse = big(600);
+    private BigInteger taken = big(0);
+    private BigInteger owed = big(0);
+    private BigInteger sumWall = big(0);
+    private BigInteger sumBattery = big(0);
+    private BigInteger sumOwed = big(0);
+    private BigInteger sumOutside = big(0);
+    private BigInteger sumAir = big(0);
+    private BigInteger sumTaken = big(0);
     private int made = 0;
     private int newest = 0;
     private int[] held = null;
     private int[] next = null;
     private char why = '-';
+
+    private static BigInteger big(long number) {
+        return BigInteger.valueOf(number);
+    }
+
+    private static BigInteger cut(BigInteger number, long divisor) {
+        return number.divide(big(divisor));
+    }
+
+    private static boolean atLeast(BigInteger number, long least) {
+        return number.compareTo(big(least)) >= 0;
+    }
+
+    private BigInteger coreDegrees(int core) {
+        return cut(heat[core], 20);
+    }
 
     private void needCore(int core) {
         if (core < 0 || core >= railOf.size()) {
@@ -88,8 +106,8 @@ final class PlainModel {
         governor[core] = 'l';
         clamp[core] = '-';
         sleep[core] = "awake";
-        heat[core] = 400;
-        tells[core] = 20;
+        heat[core] = big(400);
+        tells[core] = big(20);
         return core;
     }
 
@@ -194,16 +212,16 @@ final class PlainModel {
 
     int heat(int core) {
         needCore(core);
-        return (int) heat[core];
+        return heat[core].intValue();
     }
 
     int degrees(int core) {
         needCore(core);
-        return (int) (heat[core] / 20);
+        return coreDegrees(core).intValue();
     }
 
     int caseDegrees() {
-        return (int) (caseHeat / 200);
+        return cut(caseHeat, 200).intValue();
     }
 
     int sensor(int core) {
@@ -211,7 +229,7 @@ final class PlainModel {
         if (lost[core]) {
             throw new NoSuchElementException();
         }
-        return (int) tells[core];
+        return tells[core].intValue();
     }
 
     boolean lose(int core, boolean is) {
@@ -240,9 +258,9 @@ final class PlainModel {
     int heatUp(int core, int more) {
         needCore(core);
         needRange(more, 1, 9999);
-        needState(heat[core] + more <= 99999);
-        heat[core] += more;
-        sumOutside += more;
+        needState(!atLeast(heat[core].add(big(more)), 100000));
+        heat[core] = heat[core].add(big(more));
+        sumOutside = sumOutside.add(big(more));
         return degrees(core);
     }
 
@@ -254,19 +272,19 @@ final class PlainModel {
     }
 
     int battery() {
-        return (int) battery;
+        return battery.intValue();
     }
 
     int purse() {
-        return (int) purse;
+        return purse.intValue();
     }
 
     int taken() {
-        return (int) taken;
+        return taken.intValue();
     }
 
     int owed() {
-        return (int) owed;
+        return owed.intValue();
     }
 
     int request(int number, int speed) {
@@ -317,30 +335,30 @@ final class PlainModel {
     }
 
     long account(char kind) {
-        long[] all = {sumWall, sumBattery, sumOwed, sumOutside, sumAir, sumTaken};
+        BigInteger[] all = {sumWall, sumBattery, sumOwed, sumOutside, sumAir, sumTaken};
         int at = "wbohat".indexOf(kind);
         if (at < 0) {
             throw new IllegalArgumentException();
         }
-        return all[at];
+        return all[at].longValue();
     }
 
     long checksum() {
-        List<Long> parts = new ArrayList<>();
+        List<BigInteger> parts = new ArrayList<>();
         for (int core = 0; core < railOf.size(); core++) {
-            parts.add((long) speed[core]);
+            parts.add(big(speed[core]));
             parts.add(heat[core]);
         }
         for (int thread = 0; thread < homeOf.size(); thread++) {
-            parts.add((long) left[thread]);
+            parts.add(big(left[thread]));
         }
         parts.add(caseHeat);
         parts.add(battery);
-        long sum = 7;
-        for (long part : parts) {
-            sum = 31 * sum + part;
+        BigInteger sum = big(7);
+        for (BigInteger part : parts) {
+            sum = big(31).multiply(sum).add(part);
         }
-        return sum;
+        return sum.longValue();
     }
 
     float busyShare() {
@@ -358,15 +376,31 @@ final class PlainModel {
         if (railOf.isEmpty()) {
             throw new NoSuchElementException();
         }
-        long sum = 0;
+        BigInteger sum = big(0);
         for (int core = 0; core < railOf.size(); core++) {
-            sum += heat[core] / 20;
+            sum = sum.add(coreDegrees(core));
         }
-        return (double) sum / (double) railOf.size();
+        return sum.doubleValue() / (double) railOf.size();
     }
 
     boolean isSound() {
-        return true;
+        BigInteger inside = caseHeat.add(sumAir);
+        BigInteger came = big(4000).add(sumTaken).add(sumOutside);
+        for (int core = 0; core < railOf.size(); core++) {
+            inside = inside.add(heat[core]);
+            came = came.add(big(400));
+        }
+        return inside.equals(came) && sumTaken.equals(sumWall.add(sumBattery).add(sumOwed))
+                && atLeast(battery, 0) && !atLeast(battery, 5001);
+    }
+
+    /** The number of bits of the greatest heat, so that a test can tell how far a chip has run away. */
+    int bitsOfHeat() {
+        int most = caseHeat.bitLength();
+        for (int core = 0; core < railOf.size(); core++) {
+            most = Math.max(most, heat[core].bitLength());
+        }
+        return most;
     }
 
     private List<Integer> threadsWithWork(int core) {
@@ -380,7 +414,7 @@ final class PlainModel {
     }
 
     private int millivolts(int core, int someSpeed) {
-        return 500 + 60 * someSpeed + wear[core] / 10 + (heat[core] / 20 >= 80 ? 25 : 0);
+        return 500 + 60 * someSpeed + wear[core] / 10 + (atLeast(coreDegrees(core), 80) ? 25 : 0);
     }
 
     private void oneTick() {
@@ -395,12 +429,12 @@ final class PlainModel {
             next = null;
         }
         for (int core = 0; core < cores; core++) {
-            long degrees = heat[core] / 20;
+            BigInteger degrees = coreDegrees(core);
             if (tick % 4 == 0) {
-                tells[core] = degrees % 2 == 1 ? degrees - 1 : degrees;
+                tells[core] = degrees.testBit(0) ? degrees.subtract(big(1)) : degrees;
             }
-            tripped[core] = degrees >= 100 || tripped[core] && degrees >= 90;
-            wear[core] += degrees >= 85 ? 1 : 0;
+            tripped[core] = atLeast(degrees, 100) || tripped[core] && atLeast(degrees, 90);
+            wear[core] += atLeast(degrees, 85) ? 1 : 0;
         }
         sleepStep(cores, busy);
         for (int core = 0; core < cores; core++) {
@@ -410,17 +444,17 @@ final class PlainModel {
         for (int core = 0; core < cores; core++) {
             workStep(core);
         }
-        long power = powerOf(cores, busy);
+        BigInteger power = powerOf(cores, busy);
         for (int core = 0; core < cores; core++) {
-            long flow = heat[core] / 20 - caseHeat / 200;
-            heat[core] -= flow;
-            caseHeat += flow;
+            BigInteger flow = coreDegrees(core).subtract(cut(caseHeat, 200));
+            heat[core] = heat[core].subtract(flow);
+            caseHeat = caseHeat.add(flow);
         }
-        long toAir = (caseHeat / 200 - 20) * (1 + fan) / 2;
-        caseHeat -= toAir;
+        BigInteger toAir = cut(cut(caseHeat, 200).subtract(big(20)).multiply(big(1 + fan)), 2);
+        caseHeat = caseHeat.subtract(toAir);
         fanStep();
-        sumAir += toAir + 5L * fan;
-        supplyStep(power + 5L * fan);
+        sumAir = sumAir.add(toAir).add(big(5 * fan));
+        supplyStep(power.add(big(5 * fan)));
         System.arraycopy(busy, 0, busyAhead, 0, 6);
     }
 
@@ -463,8 +497,8 @@ final class PlainModel {
         wanted[core] = Math.min(Math.max(wish, 0), kindOf.get(core) == 's' ? 4 : 7);
         int none = 99;
         int[] tellers = {
-            wear[core] / 10 > 100 ? 0 : none, tripped[core] ? 0 : none, owed > 0 ? 0 : none,
-            lost[core] ? 2 : none, purse == 0 ? 2 : none, held != null ? held[1] : none};
+            wear[core] / 10 > 100 ? 0 : none, tripped[core] ? 0 : none, owed.signum() > 0 ? 0 : none,
+            lost[core] ? 2 : none, purse.signum() == 0 ? 2 : none, held != null ? held[1] : none};
         int least = none;
         for (int told : tellers) {
             least = Math.min(least, told);
@@ -514,54 +548,48 @@ final class PlainModel {
         left[thread] = Math.max(0, left[thread] - done);
     }
 
-    private long powerOf(int cores, boolean[] busy) {
-        long all = 0;
+    private BigInteger powerOf(int cores, boolean[] busy) {
+        BigInteger all = big(0);
         for (int core = 0; core < cores; core++) {
-            long own = volts[railOf.get(core)];
-            long leak = own * (heat[core] / 20) / 5000;
-            long power = switch (sleep[core]) {
-                case "deep" -> 0;
-                case "light" -> leak / 2;
-                case "awake" -> leak + (busy[core] ? speed[core] * own / 50 : speed[core] * own / 200);
+            int own = volts[railOf.get(core)];
+            BigInteger leak = cut(coreDegrees(core).multiply(big(own)), 5000);
+            BigInteger power = switch (sleep[core]) {
+                case "deep" -> big(0);
+                case "light" -> cut(leak, 2);
+                case "awake" -> leak.add(big(busy[core] ? speed[core] * own / 50 : speed[core] * own / 200));
                 default -> leak;
             };
-            heat[core] += power;
-            all += power;
+            heat[core] = heat[core].add(power);
+            all = all.add(power);
         }
         return all;
     }
 
     private void fanStep() {
-        long degrees = caseHeat / 200;
+        BigInteger degrees = cut(caseHeat, 200);
         int[] up = {40, 50, 60};
         int[] down = {0, 35, 45, 55};
         if (fanDead) {
             fan = 0;
-        } else if (fan < 3 && degrees >= up[fan]) {
+        } else if (fan < 3 && atLeast(degrees, up[fan])) {
             fan++;
-        } else if (degrees < down[fan]) {
+        } else if (!atLeast(degrees, down[fan])) {
             fan--;
         }
     }
 
-    private void supplyStep(long power) {
+    private void supplyStep(BigInteger power) {
+        BigInteger byWall = power.min(big(wall));
+        BigInteger byBattery = power.subtract(byWall).min(battery);
+        BigInteger wallLeft = big(wall).subtract(byWall);
         taken = power;
-        long rest = power;
-        long wallLeft = wall;
-        long byWall = Math.min(rest, wallLeft);
-        rest -= byWall;
-        wallLeft -= byWall;
-        long byBattery = Math.min(rest, battery);
-        rest -= byBattery;
-        battery -= byBattery;
-        owed = rest;
-        long into = Math.min(Math.min(30, wallLeft), 5000 - battery);
-        battery += into;
-        sumWall += byWall + into;
-        sumBattery += byBattery - into;
-        sumOwed += owed;
-        sumTaken += taken;
-        purse += 60 - taken;
-        purse = purse < 0 ? 0 : purse > 600 ? 600 : purse;
+        owed = power.subtract(byWall).subtract(byBattery);
+        BigInteger into = wallLeft.min(big(30)).min(big(5000).subtract(battery).add(byBattery));
+        battery = battery.subtract(byBattery).add(into);
+        sumWall = sumWall.add(byWall).add(into);
+        sumBattery = sumBattery.add(byBattery).subtract(into);
+        sumOwed = sumOwed.add(owed);
+        sumTaken = sumTaken.add(taken);
+        purse = purse.add(big(60)).subtract(taken).max(big(0)).min(big(600));
     }
 }

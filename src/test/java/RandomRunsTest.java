@@ -1,6 +1,4 @@
-import java.lang.reflect.InvocationTargetException;
 import java.lang.reflect.Method;
-import java.util.Arrays;
 import java.util.Random;
 
 /** Many runs of random calls, right and wrong ones, on the class and on PlainModel; all answers must agree. */
@@ -9,63 +7,39 @@ public final class RandomRunsTest {
     private static final int RUNS = 1500;
     private static final int CALLS = 512;
     private static final int[] WILD = {-1, 0, 8, 1000, 100000, Integer.MIN_VALUE, Integer.MAX_VALUE};
-    private static final Method[] METHODS = sorted(Wattgovern.class.getDeclaredMethods());
 
-    public static void main(String[] args) throws Exception {
+    public static void main(String[] args) {
         for (int run = 0; run < RUNS; run++) {
             oneRun(run);
         }
         check.finish();
     }
 
-    private static Method[] sorted(Method[] all) {
-        return Arrays.stream(all)
-                .filter(m -> java.lang.reflect.Modifier.isPublic(m.getModifiers()))
-                .sorted(java.util.Comparator.comparing(Method::getName))
-                .toArray(Method[]::new);
-    }
-
-    private static void oneRun(int run) throws Exception {
+    private static void oneRun(int run) {
         Random random = new Random(run);
-        Wattgovern x = new Wattgovern();
-        PlainModel model = new PlainModel();
+        Both both = new Both(check, "run " + run);
         int mood = run % 4;
-        for (int i = 0; i < CALLS; i++) {
+        for (int i = 0; i < CALLS && both.agree(); i++) {
             Method method = choose(random, i, mood);
-            Object[] given = arguments(random, method, mood);
-            Object due = answer(model, PlainModel.class.getDeclaredMethod(method.getName(), method.getParameterTypes()), given);
-            Object got = answer(x, method, given);
-            if (!due.equals(got)) {
-                check.same("run " + run + " call " + i + " " + method.getName() + Arrays.toString(given), due, got);
-                return;
-            }
+            both.call(method, arguments(random, method, mood));
         }
-        check.yes("run " + run, x.isSound());
+        check.yes("run " + run, both.agree() && both.chip.isSound());
     }
 
     /** Cores and threads come early and ticks often, so that runs meet much of the chip. */
-    private static Method choose(Random random, int call, int mood) throws Exception {
+    private static Method choose(Random random, int call, int mood) {
         int dice = random.nextInt(100);
         if (call < 12 && dice < 80) {
-            return named(dice < 40 ? "core" : "thread");
+            return Both.named(dice < 40 ? "core" : "thread");
         }
         if (dice < 22) {
-            return named("pass");
+            return Both.named("pass");
         }
         if (dice < 22 + 6 * mood) {
             String[] rough = {"heatUp", "wear", "wall", "feed", "move", "killFan", "request", "governor"};
-            return named(rough[random.nextInt(rough.length)]);
+            return Both.named(rough[random.nextInt(rough.length)]);
         }
-        return METHODS[random.nextInt(METHODS.length)];
-    }
-
-    private static Method named(String name) {
-        for (Method method : METHODS) {
-            if (method.getName().equals(name)) {
-                return method;
-            }
-        }
-        throw new AssertionError(name);
+        return Both.METHODS[random.nextInt(Both.METHODS.length)];
     }
 
     private static Object[] arguments(Random random, Method method, int mood) {
@@ -119,15 +93,6 @@ public final class RandomRunsTest {
                 return random.nextInt(8);
             default:
                 return random.nextInt(6);
-        }
-    }
-
-    private static Object answer(Object target, Method method, Object[] given) throws Exception {
-        method.setAccessible(true);
-        try {
-            return method.invoke(target, given);
-        } catch (InvocationTargetException thrown) {
-            return thrown.getCause().getClass();
         }
     }
 }
