@@ -1,5 +1,6 @@
 import java.lang.reflect.InvocationTargetException;
 import java.lang.reflect.Method;
+import java.math.BigInteger;
 import java.util.Arrays;
 import java.util.Comparator;
 
@@ -54,6 +55,38 @@ final class Both {
         } catch (ReflectiveOperationException broken) {
             throw new AssertionError(broken);
         }
+    }
+
+    /** The answer must be this one, and the model's. */
+    void is(Object due, String method, Object... given) {
+        check.same(name + ": " + method + Arrays.toString(given), due, call(method, given));
+    }
+
+    /** The call must throw exactly this class, and change nothing that can be asked. */
+    void refuses(Class<? extends RuntimeException> due, String method, Object... given) {
+        String before = View.of(chip);
+        is(due, method, given);
+        check.same(name + ": all that can be asked behind " + method + Arrays.toString(given), before, View.of(chip));
+    }
+
+    void pass(int ticks) {
+        for (int left = ticks; left > 0; left -= 100) {
+            call("pass", Math.min(left, 100));
+        }
+    }
+
+    /** The heat of the case, which no call tells: the checksum has it, and 31 has an inverse in a long. */
+    long caseHeat(int cores, int threads) {
+        long sum = 7;
+        for (int core = 0; core < cores; core++) {
+            sum = 31 * sum + chip.speed(core);
+            sum = 31 * sum + chip.heat(core);
+        }
+        for (int thread = 0; thread < threads; thread++) {
+            sum = 31 * sum + chip.work(thread);
+        }
+        long inverse = BigInteger.valueOf(31).modInverse(BigInteger.ONE.shiftLeft(64)).longValue();
+        return (chip.checksum() - chip.battery()) * inverse - 31 * sum;
     }
 
     /** Asks all that can be asked without a change. */

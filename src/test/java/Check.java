@@ -38,6 +38,10 @@ final class Check {
         same(what, due, got);
     }
 
+    int count() {
+        return right + wrong;
+    }
+
     void finish() {
         System.out.println(program + ": " + right + " answers as due, " + wrong + " not");
         if (wrong > 0 || right == 0) {
