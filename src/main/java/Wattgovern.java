@@ -648,7 +648,11 @@ public final class Wattgovern {
         powerOfAll.become(0);
         for (Core core : cores) {
             if (core != null) {
-                core.tellPower(passing);
+                int power = core.powerOfSpeed();
+                core.tellLeak(passing);
+                core.body.gain(passing);
+                powerOfAll.add(passing);
+                passing.become(power);
                 core.body.gain(passing);
                 powerOfAll.add(passing);
             }
@@ -815,18 +819,20 @@ public final class Wattgovern {
             }
         }
 
-        /** Lets the amount become what this core takes in the tick, by its degrees ahead of that. */
-        void tellPower(Amount power) {
+        int powerOfSpeed() {
+            return speed * rail.millivolts / (busy ? 50 : 200);
+        }
+
+        /** Lets the amount become what this core leaks in the tick, by its degrees ahead of any gain. */
+        void tellLeak(Amount leak) {
             if (sleep == DEEP) {
-                power.become(0);
+                leak.become(0);
                 return;
             }
-            power.becomeProduct(body.degrees, rail.millivolts);
-            power.becomeQuotient(power, LEAK_DIVISOR);
+            leak.becomeProduct(body.degrees, rail.millivolts);
+            leak.becomeQuotient(leak, LEAK_DIVISOR);
             if (sleep == LIGHT) {
-                power.becomeQuotient(power, 2);
-            } else if (sleep == AWAKE) {
-                power.addSmall(speed * rail.millivolts / (busy ? 50 : 200));
+                leak.becomeQuotient(leak, 2);
             }
         }
     }
@@ -1024,16 +1030,6 @@ public final class Wattgovern {
                 carry >>>= PART_BITS;
             }
             used = most;
-            putOnTop(carry);
-        }
-
-        void addSmall(int more) {
-            long carry = more;
-            for (int i = 0; i < used && carry > 0; i++) {
-                carry += parts[i];
-                parts[i] = carry & PART_MASK;
-                carry >>>= PART_BITS;
-            }
             putOnTop(carry);
         }
 

@@ -12,6 +12,7 @@ public final class RunawayTest {
         onToTheLastTick();
         aLargerHeatWithALivingFan();
         beyondALongAndBack();
+        beyondAnIntAndCold();
         theMeanRoundsOnce();
         whatIsTooHotIsNotHeated();
         randomRunaways();
@@ -129,6 +130,39 @@ public final class RunawayTest {
         check.same("owed", x.taken() - 200, x.owed());
         check.yes("owed, and not below 0", x.owed() > 0);
         check.same("isSound", true, x.isSound());
+    }
+
+    /** Sooner turned, the chip comes back to where trips end and the fan stands still. */
+    private static void beyondAnIntAndCold() {
+        Both both = oldChip("and cold", 5, true, 9);
+        while (both.model.bitsOfHeat() < 40) {
+            both.call("pass", 100);
+        }
+        both.askAll(5, 5);
+        check.yes("the degrees are beyond an int", both.model.bitsOfHeat() - 6 > 32);
+        both.call("killFan", false);
+        both.call("core", 1, 's');
+        for (int i = 0; i < 5; i++) {
+            both.call("move", i, 5);
+        }
+        Wattgovern x = both.chip;
+        while (both.agree() && x.pass(5) < 9990) {
+            both.model.pass(5);
+            both.askAll(6, 5);
+        }
+        both.model.pass(5);
+        check.yes("agrees all the way", both.agree());
+        check.same("the fan", 0, x.fan());
+        for (int core = 0; core < 6; core++) {
+            check.same("isTripped", false, x.isTripped(core));
+            check.yes("degrees", x.degrees(core) < 80);
+            check.same("need", 500 + x.age(core), x.need(core, 0));
+        }
+        check.same("owed", 0, x.owed());
+        check.same("purse", 600, x.purse());
+        check.same("battery", 5000, x.battery());
+        check.same("isSound", true, x.isSound());
+        check.yes("at rest", x.heatUp(0, 1) < 80);
     }
 
     /** The mean is written out from the heats while these fit, and beyond a double's 53 bits by the model. */
