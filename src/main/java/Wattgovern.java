@@ -972,7 +972,7 @@ public final class Wattgovern {
      * 3000 millivolts; so 9999 ticks, whatever comes from outside, leave it below 2 to the 460.
      */
     private static final class Amount {
-        // the lowest part first; those from used on are 0
+        // the lowest part first; those from used on are 0, and only putOnTop lets used grow, up to the length
         final long[] parts = new long[AMOUNT_PARTS];
         int used = 0;
 
