@@ -978,7 +978,8 @@ public final class Wattgovern {
 
         /** The number is below 2 to the 31, and not below 0. */
         void become(int number) {
-            for (int i = 0; i < used; i++) {
+            int most = reach(this);
+            for (int i = 0; i < most; i++) {
                 parts[i] = 0;
             }
             parts[0] = number;
@@ -987,15 +988,16 @@ public final class Wattgovern {
         }
 
         void becomeSame(Amount other) {
-            int most = Math.max(used, other.used);
+            int most = reach(other);
             for (int i = 0; i < most; i++) {
                 parts[i] = other.parts[i];
             }
-            used = other.used;
+            used = most;
+            dropZeros();
         }
 
         void becomeProduct(Amount other, int factor) {
-            int most = Math.max(used, other.used);
+            int most = reach(other);
             long carry = 0;
             for (int i = 0; i < most; i++) {
                 carry += other.parts[i] * factor;
@@ -1011,7 +1013,7 @@ public final class Wattgovern {
             if (divisor < 1) {
                 return;
             }
-            used = Math.max(used, other.used);
+            used = reach(other);
             long rest = 0;
             for (int i = used - 1; i >= 0; i--) {
                 rest = (rest << PART_BITS) + other.parts[i];
@@ -1022,7 +1024,7 @@ public final class Wattgovern {
         }
 
         void add(Amount more) {
-            int most = Math.max(used, more.used);
+            int most = reach(more);
             long carry = 0;
             for (int i = 0; i < most; i++) {
                 carry += parts[i] + more.parts[i];
@@ -1035,8 +1037,9 @@ public final class Wattgovern {
 
         /** Only called with an amount that is no greater than this one. */
         void takeAway(Amount less) {
+            int most = reach(less);
             long carry = 0;
-            for (int i = 0; i < used; i++) {
+            for (int i = 0; i < most; i++) {
                 carry += parts[i] - less.parts[i];
                 parts[i] = carry & PART_MASK;
                 carry >>= PART_BITS;
@@ -1045,7 +1048,7 @@ public final class Wattgovern {
         }
 
         boolean isLess(Amount other) {
-            for (int i = Math.max(used, other.used) - 1; i >= 0; i--) {
+            for (int i = reach(other) - 1; i >= 0; i--) {
                 if (parts[i] != other.parts[i]) {
                     return parts[i] < other.parts[i];
                 }
@@ -1066,7 +1069,7 @@ public final class Wattgovern {
         double toDouble() {
             long first = 0;
             double scale = 1.0;
-            for (int i = used * PART_BITS - 1; i >= 0; i--) {
+            for (int i = reach(this) * PART_BITS - 1; i >= 0; i--) {
                 long bit = (parts[i / PART_BITS] >> (i % PART_BITS)) & 1;
                 if (first < ENOUGH_BITS) {
                     first = 2 * first + bit;
@@ -1076,6 +1079,11 @@ public final class Wattgovern {
                 }
             }
             return (double) first * scale;
+        }
+
+        /** How many parts a loop over both has; asks the length too, so that no index can pass it. */
+        private int reach(Amount other) {
+            return Math.min(parts.length, Math.max(used, other.used));
         }
 
         private void putOnTop(long part) {

@@ -1,8 +1,55 @@
-/** The document's own example, call by call. */
+import java.lang.reflect.Method;
+
+/** The document's own example, call by call: as ../shared/DOC.md has it, and once more as it is written out here. */
 public final class ExampleTest {
     private static final Check check = new Check("ExampleTest");
 
-    public static void main(String[] args) {
+    public static void main(String[] args) throws ReflectiveOperationException {
+        if (Doc.isThere()) {
+            theDocumentsText();
+        }
+        writtenOut();
+        check.finish();
+    }
+
+    /** Each call there reads "name(given) = answer", with a ; behind it, and a . behind the last. */
+    private static void theDocumentsText() throws ReflectiveOperationException {
+        Wattgovern chip = new Wattgovern();
+        String text = Doc.part("```text", "```").replaceAll("\\s+", " ").trim();
+        int calls = 0;
+        for (String step : text.substring(0, text.length() - 1).split("; ")) {
+            Method method = Both.named(step.substring(0, step.indexOf('(')));
+            String given = step.substring(step.indexOf('(') + 1, step.indexOf(") = "));
+            Class<?>[] types = method.getParameterTypes();
+            Object[] values = new Object[types.length];
+            for (int i = 0; i < types.length; i++) {
+                values[i] = read(types[i], given.split(", ")[i].replace("'", ""));
+            }
+            Object due = read(method.getReturnType(), step.substring(step.indexOf(") = ") + 4));
+            check.same("the document's " + step, due, method.invoke(chip, values));
+            calls++;
+        }
+        check.same("calls of the example", 49, calls);
+    }
+
+    private static Object read(Class<?> type, String text) {
+        switch (type.getSimpleName()) {
+            case "int":
+                return Integer.valueOf(text);
+            case "long":
+                return Long.valueOf(text);
+            case "float":
+                return Float.valueOf(text);
+            case "double":
+                return Double.valueOf(text);
+            case "boolean":
+                return Boolean.valueOf(text);
+            default:
+                return text.charAt(0);
+        }
+    }
+
+    private static void writtenOut() {
         Wattgovern x = new Wattgovern();
         check.same("core(0, 'b')", 0, x.core(0, 'b'));
         check.same("core(0, 's')", 1, x.core(0, 's'));
@@ -53,6 +100,5 @@ public final class ExampleTest {
         check.same("busyShare()", 0.5f, x.busyShare());
         check.same("meanDegrees()", 63.0, x.meanDegrees());
         check.same("isSound()", true, x.isSound());
-        check.finish();
     }
 }

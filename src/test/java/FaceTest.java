@@ -33,6 +33,10 @@ public final class FaceTest {
 
     public static void main(String[] args) throws Exception {
         theFaceIsExact();
+        if (Doc.isThere()) {
+            theDocumentHasThisFace();
+            theCallsStandInTheirGroups();
+        }
         nothingElseShows();
         classesInsideAreSmall();
         theSourceKeepsToItsLanguage();
@@ -61,6 +65,45 @@ public final class FaceTest {
         check.same("one constructor", 1, constructors.length);
         check.yes("it is public", constructors[0].getModifiers() == Modifier.PUBLIC);
         check.same("without parameters", 0, constructors[0].getParameterCount());
+    }
+
+    /** Reads each method of the document's face as told() would tell it. */
+    private static void theDocumentHasThisFace() {
+        TreeSet<String> due = new TreeSet<>();
+        int constructors = 0;
+        for (String line : Doc.part("```java", "```").split("\n")) {
+            String plain = line.trim();
+            if (plain.equals("public Wattgovern();")) {
+                constructors++;
+            } else if (plain.endsWith(";") && plain.startsWith("public ")) {
+                String types = plain.substring(plain.indexOf('(') + 1, plain.indexOf(')')).replaceAll(" \\w+(?=,|$)", "");
+                String thrown = plain.substring(plain.indexOf(')') + 1, plain.length() - 1).replace(" throws", "");
+                due.add(plain.substring(7, plain.indexOf('(') + 1) + types.replace(" ", "") + ")" + thrown.replace(",", ""));
+            }
+        }
+        check.same("the document's face", due, new TreeSet<>(FACE));
+        check.same("its constructor", 1, constructors);
+        check.yes("the class", Doc.part("```java", "```").contains("public final class Wattgovern {"));
+    }
+
+    /** What the document lets the interface say ahead of some calls stands as a comment ahead of the first of them. */
+    private static void theCallsStandInTheirGroups() throws Exception {
+        String source = Files.readString(SOURCE);
+        int calls = 0;
+        for (String line : Doc.part("<p>Examples", "## Promise 1:").split("\n")) {
+            if (line.startsWith("Ahead of the calls ")) {
+                String[] names = line.substring(0, line.indexOf(" the interface says")).split("`");
+                String says = line.substring(line.indexOf(": ") + 2, line.length() - 1);
+                int at = source.indexOf("// ---- " + says + " ----");
+                check.yes("the source says " + says, at > 0);
+                for (int i = 1; i < names.length; i += 2) {
+                    int next = source.indexOf(" " + names[i] + "(", at);
+                    check.yes(names[i] + " stands behind it", next > at && source.lastIndexOf("// ----", next) == at);
+                    calls++;
+                }
+            }
+        }
+        check.same("all calls have a group", FACE.size(), calls);
     }
 
     private static void nothingElseShows() {
