@@ -1,3 +1,4 @@
+import java.lang.reflect.Field;
 import java.util.NoSuchElementException;
 
 /** Promises 35 to 42: age, wear, accounts and sums. */
@@ -6,7 +7,7 @@ public final class AgeAndSumsTest {
     private static final Class<IndexOutOfBoundsException> INDEX = IndexOutOfBoundsException.class;
     private static final Class<IllegalArgumentException> ARGUMENT = IllegalArgumentException.class;
 
-    public static void main(String[] args) {
+    public static void main(String[] args) throws ReflectiveOperationException {
         wearFromOutside();
         ageIsATenth();
         hotCoresWear();
@@ -15,6 +16,7 @@ public final class AgeAndSumsTest {
         theBusyShare();
         theMeanOfDegrees();
         soundAllAlong();
+        notSoundOnceBroken();
         check.finish();
     }
 
@@ -171,5 +173,39 @@ public final class AgeAndSumsTest {
             check.yes("sound in tick " + (i + 1) * 100, x.isSound());
             check.yes("battery from 0 to 5000", x.battery() >= 0 && x.battery() <= 5000);
         }
+    }
+
+    /** No run of calls comes there, so the sums are broken by hand: each of them for itself must be seen. */
+    private static void notSoundOnceBroken() throws ReflectiveOperationException {
+        check.same("heat of no source", false, chipWith("cooling", "givenToAir", 1).isSound());
+        check.same("heat that is gone", false, chipWith("cooling", "givenToAir", -1).isSound());
+        check.same("power of no source", false, chipWith("supply", "sumFromWall", -1).isSound());
+        check.same("from the wall to nowhere", false, chipWith("supply", "sumFromWall", 1).isSound());
+        check.same("from the battery to nowhere", false, chipWith("supply", "sumFromBattery", 1).isSound());
+        check.same("owed for nothing", false, chipWith("supply", "sumOwed", 1).isSound());
+        check.same("taken from nowhere", false, chipWith("supply", "sumTaken", 1).isSound());
+        for (int more : new int[] {-5001, -5000, -1, 0, 1}) {
+            Wattgovern x = chipWith("supply", "battery", more);
+            check.same("a battery of " + x.battery(), more >= -5000 && more <= 0, x.isSound());
+        }
+    }
+
+    /** A full chip behind some ticks, one number of which is changed from inside. */
+    private static Wattgovern chipWith(String part, String number, int more) throws ReflectiveOperationException {
+        Wattgovern x = new Wattgovern();
+        x.core(0, 's');
+        x.heatUp(0, 9999);
+        x.pass(7);
+        Field partField = Wattgovern.class.getDeclaredField(part);
+        partField.setAccessible(true);
+        Object owner = partField.get(x);
+        Field field = owner.getClass().getDeclaredField(number);
+        field.setAccessible(true);
+        if (field.getType() == int.class) {
+            field.setInt(owner, field.getInt(owner) + more);
+        } else {
+            field.setLong(owner, field.getLong(owner) + more);
+        }
+        return x;
     }
 }

@@ -168,5 +168,29 @@ public final class AmountTest {
         made = of(most);
         call(made, "becomeProduct", made, 2);
         check.same("loses what is above", most.subtract(BigInteger.ONE), valueOf(made));
+        theWholeRow(most);
+    }
+
+    /** Every call with all parts in use, where a step too far would leave the row. */
+    private static void theWholeRow(BigInteger most) throws Exception {
+        Object full = of(most);
+        Object made = of(BigInteger.ONE);
+        call(made, "becomeSame", full);
+        check.same("a copy", most, valueOf(made));
+        check.same("as large", false, call(made, "isLess", full));
+        check.same("larger", false, call(full, "isLess", of(BigInteger.ONE)));
+        check.same("less", true, call(of(BigInteger.ONE), "isLess", full));
+        call(made, "becomeQuotient", full, 5000);
+        check.same("a part of it", most.divide(BigInteger.valueOf(5000)), valueOf(made));
+        check.same("as a double", most.doubleValue(), call(full, "toDouble"));
+        check.same("up to", 7, call(full, "upTo", 7));
+        check.same("low bits", -1L, call(full, "lowBits"));
+        call(full, "takeAway", made);
+        check.same("the rest", most.subtract(most.divide(BigInteger.valueOf(5000))), valueOf(full));
+        call(full, "becomeSame", made);
+        check.same("a copy over it", valueOf(made), valueOf(full));
+        Object small = of(most);
+        call(small, "become", 3);
+        check.same("small again", BigInteger.valueOf(3), valueOf(small));
     }
 }
